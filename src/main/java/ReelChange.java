@@ -262,7 +262,7 @@ public final class ReelChange {
             return refuse(NO_SUCH);
         }
         arcs.burn(told, night, now.trims);
-        return tell(arcs.dying == 0 ? NOTHING_TO_TELL : Integer.numberOfTrailingZeros(arcs.dying));
+        return tell(arcs.firstDying());
     }
 
     public int free(int man, int place) {
@@ -1247,6 +1247,15 @@ public final class ReelChange {
             }
         }
 
+        int firstDying() {
+            for (int place = 0; place < left.room; place++) {
+                if ((dying >> place & 1) == 1) {
+                    return place;
+                }
+            }
+            return NOTHING_TO_TELL;
+        }
+
         /** Sets go up by 4: the first reels of both projectors have new arcs, to trim those is never needed. */
         int fewestTrims(House house, Night night) {
             int best = NOTHING_TO_TELL;
@@ -1856,7 +1865,7 @@ public final class ReelChange {
             letters = 0;
             value = 0;
             if (kind == WORD || kind == DIGITS) {
-                while (position < end && kindAt(position) == kind) {
+                while (position < end && position < tape.length && kindAt(position) == kind) {
                     letters = letters * 27 + (tape[position] - 'a' + 1);
                     value = value * 10 + (tape[position] - '0');
                     position++;
