@@ -46,6 +46,9 @@ public final class ArcsTest {
         Check.due("trouble", x.trouble(), 0);
         ReelChange y = Check.open(Houses.THREE);
         Check.row("none dies", new long[] {y.firstDies(0), y.arc(0, 0), y.arc(0, 1), y.arc(0, 2), y.free(0, 2)}, -2, 150, 150, 100, 30);
+        ReelChange lost = Check.open(FOUR.replace("leader 5", "leader 2"));
+        Check.row("3 are lost of each but the first: left at 15, 27, 39, 56; motors at 5, 17, 29", new long[] {lost.needs(0, 0), lost.needs(0, 1),
+            lost.needs(0, 2), lost.needs(0, 3), lost.free(0, 2), lost.free(0, 3)}, 15, 22, 22, 27, 2, 2);
         ReelChange z = Check.open(Houses.BLACK);
         Check.row("black ticks burn, too", new long[] {z.needs(0, 0), z.needs(0, 1)}, 25, 44);
     }
@@ -56,6 +59,8 @@ public final class ArcsTest {
         ReelChange y = Check.open(FOUR.replace("burns 45", "burns 24"));
         Check.row("behind it is as good as new", new long[] {y.firstDies(0), y.dies(0, 1), y.arc(0, 1), y.dies(0, 2), y.arc(0, 2), y.dies(0, 3), y.never(0)},
                 1, 1, 24, 1, 24, 1, -2);
+        ReelChange z = Check.open(FOUR.replace("burns 45", "burns 14"));
+        Check.row("at the very first", new long[] {z.firstDies(0), z.dies(0, 0), z.arc(0, 0)}, 0, 1, 14);
     }
 
     private static void goneBy() {

@@ -59,6 +59,14 @@ public final class DrawsTest {
     private static void bestMan() {
         ReelChange x = Check.open(Houses.BLACK);
         Check.row("bestMan", new long[] {x.bestMan(0, 1), x.bestMan(4, 1), x.bestMan(4, 2), x.bestMan(4, 3), x.trouble()}, 0, 1, 1, 0, 0);
+        ReelChange snaps = Check.open(Houses.BLACK.replace("reel a frames 30 first 15 whole 30", "reel a frames 30 first 20 whole 30")
+                .replace("shows a,a", "weak a 1 snaps 50;shows a,a"));
+        Check.row("4, and 7 for each draw below 50 behind the slip's: 24 52; 41 9; 52 90; 9 31",
+                new long[] {snaps.dark(0, 0), snaps.dark(0, 28652), snaps.dark(0, 74), snaps.dark(0, 51790)}, 11, 18, 4, 18);
+        ReelChange eager = Check.open("house apart 10 motor 4 leader 6 burns 60 trim 0 mend 500;reel a frames 30 first 20 whole 30"
+                + ";reel b frames 30 first 20 whole 30;weak b 1 snaps 53;man m clean slip 0;man n clean slip 1;shows a,a,b");
+        Check.row("the first man draws no less than the second, but nothing is lost by slip 0", new long[] {eager.dark(0, 0), eager.dark(1, 0),
+            eager.bestMan(0, 1), eager.bestMan(0, 20)}, 500, 500, 0, 0);
         ReelChange like = Check.open(Houses.BLACK.replace("n clean slip 40", "n clean slip 0"));
         Check.row("the first of like men", new long[] {like.bestMan(9, 1), like.bestMan(65536, 20)}, 0, 0);
     }

@@ -149,6 +149,8 @@ public final class NightTest {
         Check.row("with 4 more threaded, but man 2's reel two runs out", new long[] {x.signs(0), x.signs(2), x.fits()}, 3, 3, 15);
         x.threads(1, 5);
         Check.row("one is lost", new long[] {x.signs(0), x.fits()}, 2, 0);
+        ReelChange z = Check.open(Houses.GONE_BY + ";seen 3 black 0 lost 20;seen 1 black 0 lost 10;seen 3 black 0 lost 0;seen 1 black 1 lost 10");
+        Check.row("signs of what is lost", new long[] {z.signs(0), z.fits()}, 3, 0);
         ReelChange y = Check.open(Houses.GONE_BY);
         Check.row("without signs all men fit", new long[] {y.signs(0), y.fits()}, 0, 1);
     }
@@ -159,5 +161,9 @@ public final class NightTest {
         ReelChange y = Check.open(Houses.BLACK);
         Check.row("BLACK 4 and TAIL none by slip 5; one fewer of each by 5 and 1 more: 5 is the first",
                 new long[] {y.bestSlip(0), y.bySlip(0), y.bestSlip(1), y.bySlip(1)}, 5, 4, 5, 4);
+        ReelChange none = Check.open(Houses.BLACK.replace("first 15", "first 20"));
+        Check.row("no slip is best", new long[] {none.bestSlip(0), none.bySlip(0)}, 0, 4);
+        ReelChange most = Check.open(Houses.BLACK.replace("frames 30 first 15 whole 30", "frames 90 first 15 whole 90"));
+        Check.row("the most is best", new long[] {most.bestSlip(0), most.bySlip(0)}, 40, 29);
     }
 }

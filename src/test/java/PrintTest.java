@@ -61,6 +61,8 @@ public final class PrintTest {
         Check.row("like frames count once: 50 is 1 5 9, 47 is 9 5 1, 52 is 1 5 9", new long[] {y.truly(0, 50, false), y.truly(0, 50, true),
             y.truly(0, 47, true), y.truly(0, 52, true)}, 1, 3, 3, 3);
         Check.due("the least frame of like ones", y.likeliest(0), 47);
+        ReelChange only = Check.open(Houses.THREE.replace("mark one 42 by ayr;mark one 30 by bly", "mark one 50 by ayr"));
+        Check.row("the first mark", new long[] {only.likeliest(0), only.truly(0, 50, false), only.truly(0, 50, true)}, 50, 4, 5);
     }
 
     private static void scratches() {
@@ -93,6 +95,8 @@ public final class PrintTest {
         refused(x, "words(-1)", x.words(-1), 1);
         ReelChange y = Check.open(Houses.THREE + ";join one 1 lacks 24;join one 1 lacks 23;join one 2 lacks 99");
         Check.due("24 is a word, 23 isn't", y.words(0), 2);
+        ReelChange z = Check.open(Houses.THREE.replace("join one 10 lacks 3", "join one 10 lacks 30"));
+        Check.row("the first join", new long[] {z.words(0), z.words(1), z.words(2)}, 1, 0, 1);
     }
 
     private static void weakPlaces() {

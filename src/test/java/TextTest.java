@@ -103,6 +103,8 @@ public final class TextTest {
         fine(8, MAN + ";shows a,b,a,b,a,b,a,b");
         fine(2, GOOD.replace("reel a", "reel first").replace("shows a", "shows first"));
         fine(2, GOOD.replace("reel a", "reel abcdefgh").replace("shows a", "shows abcdefgh"));
+        fine(2, GOOD.replace("reel a", "reel zz").replace("shows a", "shows zz").replace("reel b", "reel z").replace(",b", ",z"));
+        fine(2, GOOD.replace("reel b", "reel ab").replace(",b", ",ab").replace("reel a ", "reel ba ").replace("shows a", "shows ba"));
         fine(2, GOOD + ";man slip misled t slip 40;boys 4 ride 2000 falls 50;seen 1 black 9999 lost 9999;scratch b 8");
         fine(2, GOOD + ";boys 1 ride 1 falls 0;weak a 0 snaps 1;weak a 8 snaps 99;join a 8 lacks 99;join a 8 lacks 1");
         fine(2, REELS.replace("apart 1 motor 0 leader 0 burns 1 trim 0 mend 0",
@@ -187,6 +189,7 @@ public final class TextTest {
         fault(3, MAN + ";man ^m clean slip 1");
         fault(3, MAN + ";town ^m trust 1");
         fault(3, TOWN + ";mark a 1 by t;mark b 1 by t;mark a 1 by ^t;");
+        fault(3, TOWN + ";mark a 0 by t;mark a 1 by ^t;");
         fault(3, TOWN + ";weak a 1 snaps 1;weak b 1 snaps 1;weak a ^01 snaps 1;");
         fault(3, HOUSE + ";^house apart 1");
         fault(3, GOOD + ";^shows a,b");
@@ -278,6 +281,7 @@ public final class TextTest {
         Check.due("nothing to undo", x.undo(), false);
         Check.due("no image to go back to", x.back(0), false);
         Check.due("nothing is trimmed", x.trim(1, false), false);
+        Check.due("nor the first", x.trim(0, false), false);
         Check.due("trouble", x.trouble(), 5);
     }
 }
