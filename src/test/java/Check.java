@@ -1,9 +1,20 @@
+import java.io.IOException;
 import java.nio.charset.StandardCharsets;
+import java.nio.file.Files;
+import java.nio.file.Path;
+import java.util.LinkedHashMap;
+import java.util.Map;
+import java.util.TreeSet;
+import java.util.function.BooleanSupplier;
+import java.util.function.LongSupplier;
 
 /** What the tests share: they compare answers, count, and end with exit code 1 if one was wrong. */
 final class Check {
     private static int passed = 0;
     private static int failed = 0;
+    /** Every sentence that a test holds, and its promise; the one that is held now. */
+    private static final Map<String, Integer> SENTENCES = new LinkedHashMap<>();
+    private static String held = "";
 
     private Check() {
     }
@@ -13,7 +24,7 @@ final class Check {
             passed++;
         } else {
             failed++;
-            System.out.println(call + " answered " + got + ", due is " + want);
+            System.out.println(held + call + " answered " + got + ", due is " + want);
         }
     }
 
@@ -21,10 +32,67 @@ final class Check {
         due(call, got ? 1 : 0, want ? 1 : 0);
     }
 
+    /** A call that is refused by that number, whatever TROUBLE was ahead of it. */
+    static void refused(ReelChange x, int trouble, String call, LongSupplier it) {
+        unlike(x, trouble);
+        due(call, it.getAsLong(), -1);
+        due("trouble of " + call, x.trouble(), trouble);
+    }
+
+    static void refusedAct(ReelChange x, int trouble, String call, BooleanSupplier it) {
+        unlike(x, trouble);
+        due(call, it.getAsBoolean(), false);
+        due("trouble of " + call, x.trouble(), trouble);
+    }
+
+    /** A call that isn't refused. */
+    static void told(ReelChange x, String call, LongSupplier it, long want) {
+        unlike(x, 0);
+        due(call, it.getAsLong(), want);
+        due("trouble of " + call, x.trouble(), 0);
+    }
+
+    static void toldAct(ReelChange x, String call, BooleanSupplier it) {
+        unlike(x, 0);
+        due(call, it.getAsBoolean(), true);
+        due("trouble of " + call, x.trouble(), 0);
+    }
+
+    /** Leaves another TROUBLE, by a call that changes nothing. */
+    private static void unlike(ReelChange x, int trouble) {
+        if (trouble == 2) {
+            x.shows(-1);
+        } else {
+            x.house(-1);
+        }
+    }
+
     /** The answers of several calls, in a row. */
     static void row(String calls, long[] got, long... want) {
         for (int i = 0; i < Math.max(got.length, want.length); i++) {
             due(calls + " [" + i + "]", i < got.length ? got[i] : Long.MIN_VALUE, i < want.length ? want[i] : Long.MIN_VALUE);
+        }
+    }
+
+    /** From here on the test holds that sentence of that promise, word by word as the document has it. */
+    static void holds(int promise, String sentence) {
+        SENTENCES.put(sentence, promise);
+        held = "promise " + promise + ", \"" + sentence + "\": ";
+    }
+
+    /** Whether each promise has a sentence that is held, and each sentence stands in the document, if that is there. */
+    static void sentencesStandIn(Path document, int promises) throws IOException {
+        held = "";
+        for (int promise = 1; promise <= promises; promise++) {
+            due("a sentence of promise " + promise + " is held", new TreeSet<>(SENTENCES.values()).contains(promise), true);
+        }
+        if (!Files.isRegularFile(document)) {
+            System.out.println("no document at " + document + ": the sentences are not compared with it");
+            return;
+        }
+        String text = Files.readString(document).replaceAll("\\s+", " ");
+        for (String sentence : SENTENCES.keySet()) {
+            due("the document says: " + sentence, text.contains(sentence), true);
         }
     }
 

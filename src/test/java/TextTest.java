@@ -1,10 +1,10 @@
 /** Promises 1 to 5: a new object, feed, house, fault, where; THE TEXT and its FAULTS. */
 public final class TextTest {
-    private static final String HOUSE = "house apart 1 motor 0 leader 0 burns 1 trim 0 mend 0";
-    private static final String REELS = HOUSE + ";reel a frames 9 first 0 whole 9;reel b frames 9 first 0 whole 9";
-    private static final String TOWN = REELS + ";town t trust 5";
-    private static final String MAN = TOWN + ";man m clean slip 0";
-    private static final String GOOD = MAN + ";shows a,b";
+    private static final String HOUSE = Texts.HOUSE;
+    private static final String REELS = Texts.REELS;
+    private static final String TOWN = Texts.TOWN;
+    private static final String MAN = Texts.MAN;
+    private static final String GOOD = Texts.GOOD;
 
     public static void main(String[] args) {
         newObject();
@@ -19,35 +19,6 @@ public final class TextTest {
         leastOfOnePlace();
         houseStays();
         Check.end("TextTest");
-    }
-
-    /** The place of ^ in the text is where the FAULT is due; ^ itself isn't fed. */
-    private static void fault(int number, String marked) {
-        int place = marked.indexOf('^');
-        String text = marked.substring(0, place) + marked.substring(place + 1);
-        ReelChange x = new ReelChange();
-        Check.due("house of " + text, Check.house(x, text), -1);
-        Check.due("trouble of " + text, x.trouble(), 4);
-        Check.due("fault of " + text, x.fault(), number);
-        Check.due("where of " + text, x.where(), place);
-        Check.due("size(12) of " + text, x.size(12), 0);
-        Check.due("size(17) of " + text, x.size(17), 0);
-    }
-
-    private static void fine(int places, String text) {
-        ReelChange x = new ReelChange();
-        Check.due("house of " + text, Check.house(x, text), places);
-        Check.due("trouble of " + text, x.trouble(), 0);
-        Check.due("fault of " + text, x.fault(), 0);
-        Check.due("where of " + text, x.where(), -1);
-    }
-
-    private static String times(String text, int n) {
-        StringBuilder all = new StringBuilder();
-        for (int i = 0; i < n; i++) {
-            all.append(text.replace('#', (char) ('a' + i)).replace("@", Integer.toString(i)));
-        }
-        return all.toString();
     }
 
     private static void newObject() {
@@ -97,17 +68,17 @@ public final class TextTest {
     }
 
     private static void reading() {
-        fine(2, GOOD);
-        fine(2, "  " + GOOD.replace(" ", "   ").replace(";", " ; ").replace(",", " , ") + "  ");
-        fine(2, GOOD.replace(" 9", "0009").replace("apart 1", "apart1"));
-        fine(8, MAN + ";shows a,b,a,b,a,b,a,b");
-        fine(2, GOOD.replace("reel a", "reel first").replace("shows a", "shows first"));
-        fine(2, GOOD.replace("reel a", "reel abcdefgh").replace("shows a", "shows abcdefgh"));
-        fine(2, GOOD.replace("reel a", "reel zz").replace("shows a", "shows zz").replace("reel b", "reel z").replace(",b", ",z"));
-        fine(2, GOOD.replace("reel b", "reel ab").replace(",b", ",ab").replace("reel a ", "reel ba ").replace("shows a", "shows ba"));
-        fine(2, GOOD + ";man slip misled t slip 40;boys 4 ride 2000 falls 50;seen 1 black 9999 lost 9999;scratch b 8");
-        fine(2, GOOD + ";boys 1 ride 1 falls 0;weak a 0 snaps 1;weak a 8 snaps 99;join a 8 lacks 99;join a 8 lacks 1");
-        fine(2, REELS.replace("apart 1 motor 0 leader 0 burns 1 trim 0 mend 0",
+        Texts.fine(2, GOOD);
+        Texts.fine(2, "  " + GOOD.replace(" ", "   ").replace(";", " ; ").replace(",", " , ") + "  ");
+        Texts.fine(2, GOOD.replace(" 9", "0009").replace("apart 1", "apart1"));
+        Texts.fine(8, MAN + ";shows a,b,a,b,a,b,a,b");
+        Texts.fine(2, GOOD.replace("reel a", "reel first").replace("shows a", "shows first"));
+        Texts.fine(2, GOOD.replace("reel a", "reel abcdefgh").replace("shows a", "shows abcdefgh"));
+        Texts.fine(2, GOOD.replace("reel a", "reel zz").replace("shows a", "shows zz").replace("reel b", "reel z").replace(",b", ",z"));
+        Texts.fine(2, GOOD.replace("reel b", "reel ab").replace(",b", ",ab").replace("reel a ", "reel ba ").replace("shows a", "shows ba"));
+        Texts.fine(2, GOOD + ";man slip misled t slip 40;boys 4 ride 2000 falls 50;seen 1 black 9999 lost 9999;scratch b 8");
+        Texts.fine(2, GOOD + ";boys 1 ride 1 falls 0;weak a 0 snaps 1;weak a 8 snaps 99;join a 8 lacks 99;join a 8 lacks 1");
+        Texts.fine(2, REELS.replace("apart 1 motor 0 leader 0 burns 1 trim 0 mend 0",
                 "apart 50 motor 50 leader 99 burns 9999 trim 999 mend 999") + ";shows b,a;man x late slip 0");
         ReelChange x = Check.open(GOOD.replace("apart 1 motor 0 leader 0 burns 1 trim 0 mend 0",
                 "apart 50 motor 49 leader 99 burns 9999 trim 998 mend 999"));
@@ -119,81 +90,81 @@ public final class TextTest {
     }
 
     private static void form() {
-        fault(1, "^");
-        fault(1, "   ^");
-        fault(1, "^;");
-        fault(1, "^foo");
-        fault(1, "^by a");
-        fault(1, "^7");
-        fault(1, "^House");
-        fault(1, "^\t");
-        fault(1, "house^");
-        fault(1, "house ^ape 1");
-        fault(1, "house apart ^motor");
-        fault(1, "house apart 1^");
-        fault(1, "house apart 1  ^");
-        fault(1, "house apart 1 ^;");
-        fault(1, "house apart ^00001 motor");
-        fault(1, "house apart ^10000000000000000000001 motor");
-        fault(1, HOUSE + "^,");
-        fault(1, HOUSE + ";^");
-        fault(1, HOUSE + ";^;");
-        fault(1, HOUSE + " ^1");
-        fault(1, HOUSE + ";reel ^by");
-        fault(1, HOUSE + ";reel ^scratch frames");
-        fault(1, HOUSE + ";reel ^abcdefghi frames 9");
-        fault(1, HOUSE + ";reel ^7");
-        fault(1, HOUSE + ";reel a ^first 3");
-        fault(1, HOUSE + ";reel a frames 9 first 0 whole 9 ^reel");
-        fault(1, REELS + ";town ^man trust 5");
-        fault(1, TOWN + ";mark a 1 ^t");
-        fault(1, TOWN + ";mark ^by 1");
-        fault(1, TOWN + ";mark a 1 by ^by");
-        fault(1, TOWN + ";man m ^bad slip 1");
-        fault(1, TOWN + ";man m ^slip 1");
-        fault(1, TOWN + ";man m clean ^t slip 1");
-        fault(1, TOWN + ";man m misled ^7");
-        fault(1, MAN + ";shows ^;");
-        fault(1, MAN + ";shows a ^b");
-        fault(1, MAN + ";shows a,^");
-        fault(1, MAN + ";shows a,^,");
-        fault(1, MAN + ";shows a,b,^;");
-        fault(1, GOOD + ";boys ^ride 1");
-        fault(1, GOOD + ";seen 1 ^lost 0");
-        fault(1, GOOD + ";scratch a 1 ^by");
-        fault(1, GOOD + ";^-1");
-        fault(1, GOOD + "^" + (char) 0xE1);
-        fault(1, GOOD + ";reel c frames 9 first 0 whole 9^.");
+        Texts.fault(1, "^");
+        Texts.fault(1, "   ^");
+        Texts.fault(1, "^;");
+        Texts.fault(1, "^foo");
+        Texts.fault(1, "^by a");
+        Texts.fault(1, "^7");
+        Texts.fault(1, "^House");
+        Texts.fault(1, "^\t");
+        Texts.fault(1, "house^");
+        Texts.fault(1, "house ^ape 1");
+        Texts.fault(1, "house apart ^motor");
+        Texts.fault(1, "house apart 1^");
+        Texts.fault(1, "house apart 1  ^");
+        Texts.fault(1, "house apart 1 ^;");
+        Texts.fault(1, "house apart ^00001 motor");
+        Texts.fault(1, "house apart ^10000000000000000000001 motor");
+        Texts.fault(1, HOUSE + "^,");
+        Texts.fault(1, HOUSE + ";^");
+        Texts.fault(1, HOUSE + ";^;");
+        Texts.fault(1, HOUSE + " ^1");
+        Texts.fault(1, HOUSE + ";reel ^by");
+        Texts.fault(1, HOUSE + ";reel ^scratch frames");
+        Texts.fault(1, HOUSE + ";reel ^abcdefghi frames 9");
+        Texts.fault(1, HOUSE + ";reel ^7");
+        Texts.fault(1, HOUSE + ";reel a ^first 3");
+        Texts.fault(1, HOUSE + ";reel a frames 9 first 0 whole 9 ^reel");
+        Texts.fault(1, REELS + ";town ^man trust 5");
+        Texts.fault(1, TOWN + ";mark a 1 ^t");
+        Texts.fault(1, TOWN + ";mark ^by 1");
+        Texts.fault(1, TOWN + ";mark a 1 by ^by");
+        Texts.fault(1, TOWN + ";man m ^bad slip 1");
+        Texts.fault(1, TOWN + ";man m ^slip 1");
+        Texts.fault(1, TOWN + ";man m clean ^t slip 1");
+        Texts.fault(1, TOWN + ";man m misled ^7");
+        Texts.fault(1, MAN + ";shows ^;");
+        Texts.fault(1, MAN + ";shows a ^b");
+        Texts.fault(1, MAN + ";shows a,^");
+        Texts.fault(1, MAN + ";shows a,^,");
+        Texts.fault(1, MAN + ";shows a,b,^;");
+        Texts.fault(1, GOOD + ";boys ^ride 1");
+        Texts.fault(1, GOOD + ";seen 1 ^lost 0");
+        Texts.fault(1, GOOD + ";scratch a 1 ^by");
+        Texts.fault(1, GOOD + ";^-1");
+        Texts.fault(1, GOOD + "^" + (char) 0xE1);
+        Texts.fault(1, GOOD + ";reel c frames 9 first 0 whole 9^.");
     }
 
     private static void names() {
-        fault(2, TOWN + ";mark ^c 1 by t");
-        fault(2, TOWN + ";mark ^t 1 by t");
-        fault(2, TOWN + ";mark a 1 by ^a");
-        fault(2, TOWN + ";mark a 1 by ^u");
-        fault(2, TOWN + ";join ^t 1 lacks 1");
-        fault(2, TOWN + ";weak ^frames 1 snaps 1");
-        fault(2, MAN + ";man n misled ^m slip 0");
-        fault(2, MAN + ";man n misled ^n slip 0");
-        fault(2, MAN + ";shows a,^m");
-        fault(2, MAN + ";shows ^ab");
-        fault(2, MAN + ";scratch ^c 1");
-        fault(2, HOUSE + ";shows ^a,b;reel a frames 9 first 0 whole 9");
+        Texts.fault(2, TOWN + ";mark ^c 1 by t");
+        Texts.fault(2, TOWN + ";mark ^t 1 by t");
+        Texts.fault(2, TOWN + ";mark a 1 by ^a");
+        Texts.fault(2, TOWN + ";mark a 1 by ^u");
+        Texts.fault(2, TOWN + ";join ^t 1 lacks 1");
+        Texts.fault(2, TOWN + ";weak ^frames 1 snaps 1");
+        Texts.fault(2, MAN + ";man n misled ^m slip 0");
+        Texts.fault(2, MAN + ";man n misled ^n slip 0");
+        Texts.fault(2, MAN + ";shows a,^m");
+        Texts.fault(2, MAN + ";shows ^ab");
+        Texts.fault(2, MAN + ";scratch ^c 1");
+        Texts.fault(2, HOUSE + ";shows ^a,b;reel a frames 9 first 0 whole 9");
     }
 
     private static void again() {
-        fault(3, REELS + ";reel ^a frames");
-        fault(3, REELS + ";town ^a trust 1");
-        fault(3, TOWN + ";reel ^t");
-        fault(3, TOWN + ";man ^t clean slip 1");
-        fault(3, MAN + ";man ^m clean slip 1");
-        fault(3, MAN + ";town ^m trust 1");
-        fault(3, TOWN + ";mark a 1 by t;mark b 1 by t;mark a 1 by ^t;");
-        fault(3, TOWN + ";mark a 0 by t;mark a 1 by ^t;");
-        fault(3, TOWN + ";weak a 1 snaps 1;weak b 1 snaps 1;weak a ^01 snaps 1;");
-        fault(3, HOUSE + ";^house apart 1");
-        fault(3, GOOD + ";^shows a,b");
-        fault(3, GOOD + ";boys 1 ride 1 falls 1;^boys 1");
+        Texts.fault(3, REELS + ";reel ^a frames");
+        Texts.fault(3, REELS + ";town ^a trust 1");
+        Texts.fault(3, TOWN + ";reel ^t");
+        Texts.fault(3, TOWN + ";man ^t clean slip 1");
+        Texts.fault(3, MAN + ";man ^m clean slip 1");
+        Texts.fault(3, MAN + ";town ^m trust 1");
+        Texts.fault(3, TOWN + ";mark a 1 by t;mark b 1 by t;mark a 1 by ^t;");
+        Texts.fault(3, TOWN + ";mark a 0 by t;mark a 1 by ^t;");
+        Texts.fault(3, TOWN + ";weak a 1 snaps 1;weak b 1 snaps 1;weak a ^01 snaps 1;");
+        Texts.fault(3, HOUSE + ";^house apart 1");
+        Texts.fault(3, GOOD + ";^shows a,b");
+        Texts.fault(3, GOOD + ";boys 1 ride 1 falls 1;^boys 1");
     }
 
     private static void bounds() {
@@ -211,48 +182,48 @@ public final class TextTest {
             GOOD + ";seen ^2 black 0 lost 0", GOOD + ";scratch a ^9"
         };
         for (String text : texts) {
-            fault(4, text);
+            Texts.fault(4, text);
         }
     }
 
     private static void many() {
         String frames = " frames 9 first 0 whole 9";
-        fault(5, HOUSE + times(";reel #" + frames, 8) + ";^reel x" + frames);
-        fine(2, HOUSE + times(";reel #" + frames, 8) + ";man m clean slip 0;shows h,g");
-        fault(5, REELS + times(";town x# trust 1", 4) + ";^town y");
-        String marks = HOUSE + times(";reel #" + frames, 4) + times(";town x# trust 1", 4)
-                + times(";mark a 1 by x#", 4) + times(";mark b 1 by x#", 4) + times(";mark c 1 by x#", 4);
-        fault(5, marks + ";^mark d 1 by xa");
-        fault(5, TOWN + times(";join a 1 lacks 1", 8) + ";^join a 1");
-        fault(5, TOWN + times(";weak a @ snaps 1", 6) + ";^weak a 1");
-        fault(5, TOWN + times(";man x# late slip 1", 4) + ";^man y");
-        fault(5, MAN + ";shows a,b,a,b,a,b,a,b,^a");
-        fault(5, GOOD + times(";seen 1 black 0 lost 0", 6) + ";^seen 1");
-        fault(5, GOOD + times(";scratch a 0", 6) + ";^scratch a");
+        Texts.fault(5, HOUSE + Texts.times(";reel #" + frames, 8) + ";^reel x" + frames);
+        Texts.fine(2, HOUSE + Texts.times(";reel #" + frames, 8) + ";man m clean slip 0;shows h,g");
+        Texts.fault(5, REELS + Texts.times(";town x# trust 1", 4) + ";^town y");
+        String marks = HOUSE + Texts.times(";reel #" + frames, 4) + Texts.times(";town x# trust 1", 4)
+                + Texts.times(";mark a 1 by x#", 4) + Texts.times(";mark b 1 by x#", 4) + Texts.times(";mark c 1 by x#", 4);
+        Texts.fault(5, marks + ";^mark d 1 by xa");
+        Texts.fault(5, TOWN + Texts.times(";join a 1 lacks 1", 8) + ";^join a 1");
+        Texts.fault(5, TOWN + Texts.times(";weak a @ snaps 1", 6) + ";^weak a 1");
+        Texts.fault(5, TOWN + Texts.times(";man x# late slip 1", 4) + ";^man y");
+        Texts.fault(5, MAN + ";shows a,b,a,b,a,b,a,b,^a");
+        Texts.fault(5, GOOD + Texts.times(";seen 1 black 0 lost 0", 6) + ";^seen 1");
+        Texts.fault(5, GOOD + Texts.times(";scratch a 0", 6) + ";^scratch a");
     }
 
     private static void lacks() {
-        fault(6, "^reel a");
-        fault(6, " ^seen 1");
-        fault(6, "^shows");
-        fault(6, "^boys");
-        fault(6, MAN + ";^seen 1 black 0 lost 0;shows a,b");
-        fault(6, MAN + ";shows a^;");
-        fault(6, MAN + ";shows a^");
-        fault(6, MAN + ";shows a ^");
-        fault(6, MAN + ";shows a ^; shows");
-        fault(6, MAN.replace(";man m clean slip 0", "") + ";shows a,b^");
-        fault(6, MAN + "^");
-        fault(6, MAN + "  ^");
-        fault(6, HOUSE + "^");
+        Texts.fault(6, "^reel a");
+        Texts.fault(6, " ^seen 1");
+        Texts.fault(6, "^shows");
+        Texts.fault(6, "^boys");
+        Texts.fault(6, MAN + ";^seen 1 black 0 lost 0;shows a,b");
+        Texts.fault(6, MAN + ";shows a^;");
+        Texts.fault(6, MAN + ";shows a^");
+        Texts.fault(6, MAN + ";shows a ^");
+        Texts.fault(6, MAN + ";shows a ^; shows");
+        Texts.fault(6, MAN.replace(";man m clean slip 0", "") + ";shows a,b^");
+        Texts.fault(6, MAN + "^");
+        Texts.fault(6, MAN + "  ^");
+        Texts.fault(6, HOUSE + "^");
     }
 
     /** Where two FAULTS have one place the least number is told. */
     private static void leastOfOnePlace() {
-        fault(1, MAN + ";shows a,b,a,b,a,b,a,b,^by");
-        fault(2, MAN + ";shows a,b,a,b,a,b,a,b,^t");
-        fault(1, MAN + ";^");
-        fault(1, MAN + ";shows a,^");
+        Texts.fault(1, MAN + ";shows a,b,a,b,a,b,a,b,^by");
+        Texts.fault(2, MAN + ";shows a,b,a,b,a,b,a,b,^t");
+        Texts.fault(1, MAN + ";^");
+        Texts.fault(1, MAN + ";shows a,^");
     }
 
     private static void houseStays() {
