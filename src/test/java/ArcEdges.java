@@ -70,7 +70,8 @@ final class ArcEdges {
         x.threads(2, 7);
         Check.row("BLACK ticks burn, too", new long[] {x.black(0, 2), x.needs(0, 1), x.needs(0, 2), x.needs(0, 3)}, 2, 25, 27, 30);
         x.threads(2, 4);
-        Check.row("LOST frames don't lengthen it", new long[] {x.lost(0, 2), x.needs(0, 2)}, 1, 24);
+        Check.row("LOST frames aren't shown, so it needs as many fewer; the next one's motor starts as long ahead of the change", new long[] {x.lost(0, 2), x.needs(0, 2),
+            x.needs(0, 3), x.free(0, 3)}, 1, 24, 30, 4);
         ReelChange gone = Check.open("house apart 10 motor 0 leader 0 burns 99 trim 0 mend 0;reel a frames 20 first 5 whole 20;reel b frames 10 first 0 whole 20"
                 + ";man m clean slip 0;shows a,b,a,b");
         Check.row("a reel gone by burns till it is changed; the next from then", new long[] {gone.needs(0, 0), gone.needs(0, 1), gone.needs(0, 2), gone.needs(0, 3)},
@@ -91,6 +92,10 @@ final class ArcEdges {
             ReelChange x = Check.open(house(row[0], 5, "a,a,a"));
             Check.row("burns " + row[0], new long[] {x.dies(0, 0), x.firstDies(0)}, row[1], row[2]);
         }
+        ReelChange eight = Check.open(house(104, 999, "a,a,a,a,a,a,a,a"));
+        Check.row("the last of eight: 25, 25, 25 and 30 of 104", new long[] {eight.firstDies(0), eight.dies(0, 7), eight.arc(0, 7), eight.arc(0, 5), eight.arc(0, 6)}, 7, 1, 104, 29, 14);
+        ReelChange enough = Check.open(house(106, 999, "a,a,a,a,a,a,a,a"));
+        Check.row("of 106", new long[] {enough.firstDies(0), enough.dies(0, 7), enough.arc(0, 7)}, -2, 0, 1);
         int[][] second = {{24, 1}, {25, 2}, {39, 2}, {40, -2}};
         for (int[] row : second) {
             ReelChange x = Check.open("house apart 10 motor 5 leader 5 burns " + row[0] + " trim 5 mend 1;reel a frames 20 first 5 whole 20;reel b frames 15 first 5 whole 20"

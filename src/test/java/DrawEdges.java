@@ -162,6 +162,11 @@ final class DrawEdges {
         Check.row("2 BLACK, or a TAIL of 1", new long[] {tail.bestMan(0, 1), tail.bestMan(0, 20)}, 1, 1);
         ReelChange lost = Check.open("house apart 10 motor 0 leader 7 burns 1 trim 0 mend 0;reel a frames 50 first 40 whole 50;reel b frames 50 first 0 whole 50;town t trust 5;mark a 45 by t" + end);
         Check.row("2 BLACK, or 3 LOST", new long[] {lost.black(0, 1), lost.lost(1, 1), lost.bestMan(0, 1)}, 2, 3, 0);
+        // by l all of b goes by, so its weak place isn't drawn; by m b is shown and snaps: 5 and 24
+        ReelChange dark = Check.open("house apart 10 motor 0 leader 7 burns 1 trim 0 mend 500;reel a frames 50 first 10 whole 50;reel b frames 2 first 0 whole 50;town t trust 5;mark a 48 by t"
+                + ";weak b 1 snaps 25" + end);
+        Check.row("505 DARK, or 2 LOST and a TAIL of 30", new long[] {dark.dark(0, 0), dark.all(1, 0), dark.all(1, 2), dark.bestMan(0, 1)}, 505, 2, 30, 1);
+        Check.row("90 is no snap by 25: 5 BLACK", new long[] {dark.dark(0, 5624), dark.bestMan(5624, 1)}, 5, 0);
         ReelChange fewer = Check.open("house apart 10 motor 0 leader 9 burns 1 trim 0 mend 0;reel a frames 50 first 40 whole 50;reel b frames 50 first 0 whole 50;town t trust 5;mark a 43 by t" + end);
         Check.row("2 BLACK, or 1 LOST", new long[] {fewer.black(0, 1), fewer.lost(1, 1), fewer.bestMan(0, 1)}, 2, 1, 1);
     }

@@ -30,6 +30,7 @@ final class FaultEdges {
     static void all() {
         endsTooSoon();
         otherTokens();
+        otherLetters();
         behindTheEnd();
         notTold();
         toldAgain();
@@ -108,6 +109,32 @@ final class FaultEdges {
         }
     }
 
+    /** A WORD that must stand there, but for one letter: its first, its last, one more, one fewer. */
+    private static void otherLetters() {
+        Check.holds(3, "TOKEN with which no HOUSE goes on");
+        for (int i = 0; i < LINES.length; i++) {
+            StringBuilder text = new StringBuilder(ahead(i));
+            for (int k = 0; k < LINES[i].length; k++) {
+                String word = token(LINES[i][k]);
+                char sort = sort(LINES[i][k]);
+                if (sort == 'l' || sort == 'k') {
+                    String rest = text.toString();
+                    int place = text.length();
+                    Texts.faultAt(1, place, rest + "q" + word.substring(1) + " 1");
+                    Texts.faultAt(1, place, rest + word.substring(0, word.length() - 1) + "q 1");
+                    Texts.faultAt(1, place, rest + word + "q 1");
+                    Texts.faultAt(1, place, rest + word.substring(0, word.length() - 1) + " 1");
+                    Texts.faultAt(1, place, rest + word.substring(1) + " 1");
+                }
+                text.append(word).append(' ');
+            }
+        }
+        for (String kind : new String[] {"early", "late"}) {
+            Texts.fault(1, Texts.TOWN + ";man m ^q" + kind.substring(1) + " slip 0");
+            Texts.fault(1, Texts.TOWN + ";man m ^" + kind + "q slip 0");
+        }
+    }
+
     /** The FAULT of a TOKEN in place of another; 0 where it depends on what it is. */
     private static int faultOf(char sort, String other, String due, int k) {
         boolean isWord = other.equals("zzz") || other.equals("framess");
@@ -169,6 +196,11 @@ final class FaultEdges {
         // sixteen NAMES are all that there may be
         String all = Texts.HOUSE + Texts.times(";reel r#" + FRAMES, 8) + Texts.times(";town t# trust 5", 4) + Texts.times(";man m# clean slip 0", 4);
         Texts.fine(2, all + ";shows ra,rh;mark rh 1 by td");
+        ReelChange town = Texts.fine(2, Texts.HOUSE + Texts.times(";man m# clean slip 0", 4) + Texts.times(";reel r#" + FRAMES, 8) + Texts.times(";town t# trust 5", 4)
+                + ";shows ra,rh;mark rh 1 by td");
+        Check.due("the sixteenth is a town", town.mark(7, 3), 1);
+        ReelChange reel = Texts.fine(2, Texts.HOUSE + Texts.times(";man m# clean slip 0", 4) + Texts.times(";town t# trust 5", 4) + Texts.times(";reel r#" + FRAMES, 8) + ";shows rh,rh");
+        Check.due("the sixteenth is a reel", reel.shows(0), 7);
         Texts.fault(3, Texts.HOUSE + Texts.times(";reel r#" + FRAMES, 8) + Texts.times(";town t# trust 5", 4) + Texts.times(";man m# clean slip 0", 3) + ";man ^mc late slip 0");
         Texts.fault(3, Texts.HOUSE + Texts.times(";reel r#" + FRAMES, 8) + Texts.times(";town t# trust 5", 3) + Texts.times(";man m# clean slip 0", 4) + ";town ^md trust 1");
     }

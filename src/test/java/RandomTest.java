@@ -8,7 +8,8 @@ import java.util.Random;
 /** Houses at random, with acts at random: every answer against the slow house's. */
 public final class RandomTest {
     private static final int HOUSES = 400;
-    private static final int CALLS = 500;
+    private static final int HOUSES_OF_ONE = 3;
+    private static final int CALLS = 150;
 
     private final Random random;
     private final ReelChange x = new ReelChange();
@@ -28,38 +29,46 @@ public final class RandomTest {
         Check.end("RandomTest");
     }
 
+    /** Several HOUSES on one object, one behind the other: nothing of the one before may be left. */
     private void run(int number) {
-        slow = SlowHouse.any(random);
-        while (slow.text().length() > 900) {
+        for (int part = 0; part < HOUSES_OF_ONE; part++) {
             slow = SlowHouse.any(random);
-        }
-        String text = slow.text();
-        about = "house " + number + " ";
-        due("house", Check.house(x, text), slow.shows.length);
-        for (int i = 0; i < CALLS; i++) {
-            switch (random.nextInt(8)) {
-                case 0:
-                    act();
-                    break;
-                case 1:
-                    print();
-                    break;
-                case 2:
-                    chances();
-                    break;
-                case 3:
-                    arcs();
-                    break;
-                case 4:
-                    twoHouses();
-                    break;
-                case 5:
-                    draws();
-                    break;
-                default:
-                    night();
-                    break;
+            while (slow.text().length() > 900) {
+                slow = SlowHouse.any(random);
             }
+            images.clear();
+            undos.clear();
+            about = "house " + number + ", " + part + " ";
+            due("house", Check.house(x, slow.text()), slow.shows.length);
+            for (int i = 0; i < CALLS; i++) {
+                someCalls();
+            }
+        }
+    }
+
+    private void someCalls() {
+        switch (random.nextInt(8)) {
+            case 0:
+                act();
+                break;
+            case 1:
+                print();
+                break;
+            case 2:
+                chances();
+                break;
+            case 3:
+                arcs();
+                break;
+            case 4:
+                twoHouses();
+                break;
+            case 5:
+                draws();
+                break;
+            default:
+                night();
+                break;
         }
     }
 
