@@ -14,6 +14,7 @@ final class ArcEdges {
         free();
         trimmed();
         firstReels();
+        projectors();
         never();
         neverOfLikeOnes();
     }
@@ -151,6 +152,20 @@ final class ArcEdges {
         x.trim(0, true);
         x.trim(1, true);
         Check.row("new arcs are as new", new long[] {x.arc(0, 0), x.arc(0, 1), x.arc(0, 2), x.dies(0, 3)}, 30, 20, 5, 1);
+    }
+
+    /** A trim ahead of one place changes what its own projector has, at its places alone. */
+    private static void projectors() {
+        Check.holds(29, "the reels as they are shown, each on the other projector than the one ahead (the first on projector 0).");
+        ReelChange x = Check.open(house(200, 5, "a,a,a,a,a,a"));
+        long[] plain = {185, 175, 160, 150, 135, 120};
+        Check.row("15, 25, 25 of the one, 25, 25, 30 of the other", new long[] {x.arc(0, 0), x.arc(0, 1), x.arc(0, 2), x.arc(0, 3), x.arc(0, 4), x.arc(0, 5)}, plain);
+        x.trim(2, true);
+        Check.row("trimmed ahead of 2", new long[] {x.arc(0, 0), x.arc(0, 1), x.arc(0, 2), x.arc(0, 3), x.arc(0, 4), x.arc(0, 5)}, 185, 175, 175, 150, 150, 120);
+        Check.holds(29, "TRIMS are told for reels: ahead of such a reel its projector is trimmed");
+        x.trim(2, false);
+        x.trim(5, true);
+        Check.row("trimmed ahead of 5", new long[] {x.arc(0, 0), x.arc(0, 1), x.arc(0, 2), x.arc(0, 3), x.arc(0, 4), x.arc(0, 5)}, 185, 175, 160, 150, 135, 170);
     }
 
     private static void never() {

@@ -35,6 +35,8 @@ final class FaultEdges {
         notTold();
         toldAgain();
         onceAlone();
+        outOfBounds();
+        many();
         lacks();
         leastOfOnePlace();
         firstFromTheLeft();
@@ -214,6 +216,44 @@ final class FaultEdges {
         Texts.fault(3, Texts.GOOD + ";^shows 7");
         Texts.fault(3, Texts.GOOD + ";boys 1 ride 1 falls 0;^boys 9");
         Texts.fault(3, Texts.HOUSE + ";boys 1 ride 1 falls 0 ; ^boys");
+    }
+
+    private static void outOfBounds() {
+        Check.holds(3, "4 a WHOLE out of bounds; at it.");
+        Texts.fault(4, "house apart   ^0051 motor 0");
+        Texts.fault(4, "house apart^51motor0");
+        Texts.fault(4, "house apart ^0000;");
+        Texts.fault(4, "house apart ^9999");
+        Texts.fine(2, Texts.GOOD.replace("apart 1", "apart 0050"));
+        Texts.fault(4, Texts.GOOD + ";mark a   ^9");
+        Texts.fault(4, Texts.GOOD + ";boys 4 ride 2000 falls ^51");
+        Texts.fault(4, Texts.GOOD + ";seen 1 black 9999 lost 9999;seen ^2");
+        Check.holds(3, "house apart WHOLE motor WHOLE leader WHOLE burns WHOLE trim WHOLE mend WHOLE (1 .. 50 frames; 0 .. 50; 0 .. 99; 1 .. 9,999; 0 .. 999; 0 .. 999), ahead of all others");
+        Texts.fault(6, "^reel a" + FRAMES + ";" + Texts.HOUSE);
+        Texts.fault(6, "^man m clean slip 0;" + Texts.GOOD);
+        Texts.fault(1, "^;" + Texts.GOOD);
+    }
+
+    /** One LINE more of each sort, whatever comes behind its first WORD. */
+    private static void many() {
+        Check.holds(3, "5 MANY: a LINE more of its sort than there is room for, at its first WORD");
+        String towns = Texts.HOUSE + Texts.times(";reel #" + FRAMES, 4) + Texts.times(";town t# trust 1", 4);
+        String[][] sorts = {
+            {Texts.HOUSE + Texts.times(";reel #" + FRAMES, 8), "reel"},
+            {Texts.REELS + Texts.times(";town t# trust 1", 4), "town"},
+            {towns + Texts.times(";mark a 1 by t#", 4) + Texts.times(";mark b 1 by t#", 4) + Texts.times(";mark c 1 by t#", 4), "mark"},
+            {Texts.GOOD + Texts.times(";join a 1 lacks 1", 8), "join"},
+            {Texts.GOOD + Texts.times(";weak b @ snaps 1", 6), "weak"},
+            {Texts.TOWN + Texts.times(";man m# late slip 1", 4), "man"},
+            {Texts.GOOD + Texts.times(";seen 1 black 0 lost 0", 6), "seen"},
+            {Texts.GOOD + Texts.times(";scratch a 1", 6), "scratch"}
+        };
+        for (String[] sort : sorts) {
+            for (String behind : new String[] {"", " ", " a", " .", " 99", ";", " a 0 by t", " by"}) {
+                Texts.fault(5, sort[0] + ";^" + sort[1] + behind);
+                Texts.fault(5, sort[0] + " ;  ^" + sort[1] + behind);
+            }
+        }
     }
 
     private static void lacks() {

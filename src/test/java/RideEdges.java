@@ -79,7 +79,8 @@ final class RideEdges {
                 Check.due("by one boy, " + later + " later, ride " + row[0], x.waits(0, 1, later), Math.max(row[1] - later, 0));
             }
         }
-        Check.holds(40, "by the boy who is back first (the least number of like ones)");
+        Check.holds(40, "Boys carry them in order, one at a time: a reel can go when the first house has changed away from it (or it has run out), by the boy who is back first"
+                + " (the least number of like ones)");
         // left at 10, 20, 30, 40; two boys with a ride of 8: there at 18 and 28, back at 26 and 36, so there at 38 (30, the first boy) and 48
         ReelChange two = Check.open(tens("a,b,c,d", ";boys 2 ride 8 falls 0"));
         Check.row("two boys in turn", new long[] {two.apart(0, 2), two.apart(0, 1), two.apart(0, 3)}, 18, 10 + 8 + 3 * 6, 18);

@@ -1,3 +1,5 @@
+import java.util.ArrayList;
+import java.util.List;
 import java.util.NoSuchElementException;
 
 /** Edges of promises 1 to 5: a new object, THE TAPE, house, fault, where. */
@@ -12,6 +14,7 @@ final class TapeEdges {
         wholeTape();
         numberOfBytes();
         newHouse();
+        nothingIsLeft();
         houseStays();
         fault();
         where();
@@ -129,6 +132,61 @@ final class TapeEdges {
         Check.due("a smaller house", Check.house(x, Texts.HOUSE + ";reel q frames 5 first 4 whole 6;man z late slip 0;shows q,q"), 2);
         Check.row("nothing is left of the one before", new long[] {x.size(6), x.size(7), x.size(10), x.size(11), x.reel(0, 0), x.reel(1, 0), x.mark(0, 0)},
                 1, 0, 0, 1, 5, -1, -1);
+    }
+
+    /** A small HOUSE behind one with all that there may be answers as it does on a new object. */
+    private static void nothingIsLeft() {
+        Check.holds(3, "are the HOUSE from now on");
+        String full = "house apart50motor50leader99burns9999trim999mend999" + Texts.times(";reel # frames900first9whole999", 8)
+                + Texts.times(";town # trust9", 4, 'i') + Texts.times(";mark h5by #", 4, 'i') + Texts.times(";mark a7by #", 4, 'i') + Texts.times(";join a8lacks99", 8)
+                + Texts.times(";weak a@snaps99", 6) + Texts.times(";man # late slip40", 4, 'm') + ";shows h,g,f,e,d,c,b,a;boys4ride2000falls50"
+                + Texts.times(";seen7black9lost9", 6) + Texts.times(";scratch h9", 1);
+        String small = Texts.HOUSE.replace("mend 0", "mend 9") + ";reel a frames 30 first 12 whole 40;reel b frames 20 first 3 whole 30;town t trust 5;mark b 4 by t;join a 1 lacks 2"
+                + ";weak b 7 snaps 30;man m clean slip 3;shows b,a,b;seen 1 black 0 lost 1;scratch a 4";
+        ReelChange x = Check.open(full);
+        x.threads(2, 0);
+        x.trim(3, true);
+        x.mend(5);
+        x.image();
+        answers(x);
+        Check.house(x, small);
+        long[] due = answers(Check.open(small));
+        Check.row("behind a full house", answers(x), due);
+        Check.row("with boys told, not as many", answers(reopened(x, small + ";boys 2 ride 3 falls 4")), answers(Check.open(small + ";boys 2 ride 3 falls 4")));
+        Check.row("without", answers(reopened(x, small)), due);
+        Check.row("behind a house with a FAULT at its end", answers(reopened(reopened(x, full + ";"), small)), due);
+    }
+
+    private static ReelChange reopened(ReelChange x, String text) {
+        Check.house(x, text);
+        return x;
+    }
+
+    /** What all calls tell that change nothing. */
+    private static long[] answers(ReelChange x) {
+        List<Long> all = new ArrayList<>();
+        for (int a = 0; a <= 17; a++) {
+            all.add((long) x.size(a));
+        }
+        for (int a = -1; a <= 8; a++) {
+            for (int b = -1; b <= 8; b++) {
+                for (int answer : new int[] {x.reel(a, b), x.mark(a, b), x.believes(a, b), x.starts(a, b), x.changes(a, b), x.lost(a, b), x.black(a, b), x.tail(a, b), x.begins(a, b),
+                    x.all(a, b), x.exact(a, b), x.needs(a, b), x.dies(a, b), x.free(a, b), x.arc(a, b), x.pays(a, b), x.apart(a, b), x.waits(a, b, 9), x.dark(a, b), x.trouble()}) {
+                    all.add((long) answer);
+                }
+                all.add(x.truly(a, b, true));
+                all.add(x.holds(a, b, false));
+                all.add(x.wears(a, b, true));
+            }
+            for (int answer : new int[] {x.shows(a), x.thread(a), x.length(a), x.worst(a), x.signs(a), x.bestSlip(a), x.bySlip(a), x.firstDies(a), x.never(a), x.likeliest(a), x.who(a),
+                x.far(a), x.missing(a, false), x.missing(a, true), x.words(a), x.boys(a), x.bestMan(a, 3)}) {
+                all.add((long) answer);
+            }
+        }
+        for (long answer : new long[] {x.fits(), x.well(false), x.well(true), x.wrong(), x.exchanges(), x.trouble(), x.fault(), x.where()}) {
+            all.add(answer);
+        }
+        return all.stream().mapToLong(Long::longValue).toArray();
     }
 
     private static void houseStays() {

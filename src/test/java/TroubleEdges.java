@@ -9,6 +9,7 @@ final class TroubleEdges {
     }
 
     static void all() {
+        constant();
         withoutHouse();
         withHouse();
         leftAsItIs();
@@ -66,6 +67,11 @@ final class TroubleEdges {
         calls.put("image", ReelChange::image);
         calls.put("back", x -> x.back(0) ? 1 : -1);
         return calls;
+    }
+
+    private static void constant() {
+        Check.holds(56, "`NONE = -1`: There is none; refused.");
+        Check.due("NONE", ReelChange.NONE, -1);
     }
 
     private static void withoutHouse() {
