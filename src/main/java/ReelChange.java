@@ -1845,7 +1845,7 @@ public final class ReelChange {
 
         /** Whether the TOKEN is that WORD. */
         private boolean is(String word) {
-            if (kind != WORD || word.length() != position - start) {
+            if (kind != WORD || start < 0 || word.length() != position - start) {
                 return false;
             }
             for (int i = 0; i < word.length() && start + i < tape.length; i++) {
@@ -1865,7 +1865,7 @@ public final class ReelChange {
             letters = 0;
             value = 0;
             if (kind == WORD || kind == DIGITS) {
-                while (position < end && position < tape.length && kindAt(position) == kind) {
+                while (position >= 0 && position < end && position < tape.length && kindAt(position) == kind) {
                     letters = letters * 27 + (tape[position] - 'a' + 1);
                     value = value * 10 + (tape[position] - '0');
                     position++;
